@@ -250,10 +250,7 @@ public final class ScopeWarden {
     }
 
     public int plan(int scope, int i) {
-        if (world.scopeAt(scope) == null || i < -1) {
-            return NONE;
-        }
-        return world.planned(scope, i);
+        return world.scopeAt(scope) == null ? NONE : world.planned(scope, i);
     }
 
     public int would(int scope, int what) {
@@ -652,7 +649,6 @@ public final class ScopeWarden {
         void become(Thing other) {
             name = other.name;
             closer = other.closer;
-            rest = other.rest;
             state = other.state;
             owner = other.owner;
             place = other.place;
@@ -860,7 +856,6 @@ public final class ScopeWarden {
             }
             t.name = text.name;
             t.closer = text.inner;
-            t.rest = null;
             t.state = HELD;
             t.owner = owner;
             t.place = NOT_ANY;
@@ -1137,18 +1132,6 @@ public final class ScopeWarden {
             return many;
         }
 
-        /** Whether its own scope and those of its open ( are all OPEN. */
-        boolean standsInOpenScopes(Task t) {
-            int s = t.inner;
-            for (int i = 0; i < MOST_SCOPES && s != t.own; i++) {
-                if (!isOpen(s)) {
-                    return false;
-                }
-                s = ownerOf(SCOPE_NODE + s);
-            }
-            return isOpen(t.own);
-        }
-
         int scopesNotShutOf(int task) {
             int many = 0;
             for (int n = 0; n < scopeCount; n++) {
@@ -1231,7 +1214,8 @@ public final class ScopeWarden {
             world.turns++;
             t.turns++;
             t.latest = world.turns;
-            if (t.asked || !world.standsInOpenScopes(t)) {
+            // the other scopes of the task are above its innermost one: were one shut, this would be, too
+            if (t.asked || !world.isOpen(t.inner)) {
                 t.state = CANCELLED;
             }
             by = n;

@@ -1165,7 +1165,7 @@ public final class ModelTest {
         }
 
         private void change() {
-            int kind = random.nextInt(taking + opening + ticking + 12);
+            int kind = random.nextInt(taking + opening + ticking + 13);
             if (kind < taking) {
                 put(name() + (random.nextInt(3) == 0 ? "" : "=" + steps(1)));
                 same("take", scope(), 0, 0, 0, 0);
@@ -1200,7 +1200,7 @@ public final class ModelTest {
                     break;
                 case 7: same("cancel", task(), 0, 0, 0, 0); break;
                 case 8: same("rank", task(), any(200) - 99, 0, 0, 0); break;
-                case 9: same(random.nextInt(3) == 0 ? "image" : "undo", 0, 0, 0, 0, 0); break;
+                case 9: case 10: same(random.nextInt(2) == 0 ? "image" : "undo", 0, 0, 0, 0, 0); break;
                 default: changeRows(); break;
             }
         }

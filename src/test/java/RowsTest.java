@@ -5,11 +5,15 @@ public final class RowsTest {
         promise39Set();
         promise40Get();
         promise41Copy();
+        copyOfLongest();
         promise42Lay();
         promise43Judge();
         promise44Image();
         promise45Undo();
         undoOfTasks();
+        undoOfOpenScopesOfTasks();
+        undoOfTasksThatAreOver();
+        tasksThatComeBehindUndo();
         Due.end();
     }
 
@@ -36,6 +40,10 @@ public final class RowsTest {
         Due.is("set(3, 39)", x.set(3, 39, 8), 1);
         Due.is("row(3, 40) again", x.row(3, 40), 1);
         Due.is("get(3, 39) then", x.get(3, 39), 0);
+        x.set(3, 0, 8);
+        x.row(3, 1);
+        Due.is("get(3, 0) then", x.get(3, 0), 0);
+        Due.is("get(3, 1) then", x.get(3, 1), ScopeWarden.NO);
         Due.is("row(3, 0)", x.row(3, 0), 1);
         Due.is("get(3, 0) of a row of none", x.get(3, 0), ScopeWarden.NO);
         Due.is("set(3, 0) of a row of none", x.set(3, 0, 1), -13);
@@ -101,6 +109,16 @@ public final class RowsTest {
         Due.refused("no such one", x, ScopeWarden.NONE, () -> x.copy(4, 0, 2, 0, 1));
         Due.refused("no such other", x, ScopeWarden.NONE, () -> x.copy(2, 0, 4, 0, 1));
         Due.refused("no such other", x, ScopeWarden.NONE, () -> x.copy(0, 0, -1, 0, 1));
+    }
+
+    private static void copyOfLongest() {
+        ScopeWarden x = new ScopeWarden();
+        x.row(0, 40);
+        x.row(1, 40);
+        x.set(0, 39, 7);
+        Due.is("copy of a longest row", x.copy(0, 0, 1, 0, 40), 40);
+        Due.is("its end", x.get(1, 39), 7);
+        Due.refused("copy of one more", x, -13, () -> x.copy(0, 0, 1, 0, 41));
     }
 
     private static String row(ScopeWarden x, int row) {
@@ -223,7 +241,11 @@ public final class RowsTest {
         Due.is("all of it", Due.world(x), then);
         Due.is("a thing that comes then", Due.take(x, 0, "e=!9"), 3);
         Due.is("its closer", Due.closer(x, 3), "!9");
+        Due.is("it is held", x.thing(3, 0), 0);
+        Due.is("its place in the log", x.thing(3, 2), -5);
+        Due.is("its owner", x.thing(3, 1), 0);
         Due.is("a scope that comes then", x.open(0), 2);
+        Due.is("it is open", x.scope(2, 0), 0);
         Due.is("the closers of those that were there", Due.closer(x, 0), "!3;+0=1");
         x.shut(0);
         Due.is("undo behind that", x.undo(), 2);
@@ -249,5 +271,74 @@ public final class RowsTest {
         Due.is("all of it", Due.world(x), then);
         x.run(100);
         Due.is("done again", Due.world(x), end);
+    }
+
+    private static void undoOfOpenScopesOfTasks() {
+        ScopeWarden x = new ScopeWarden();
+        Due.task(x, 0, 0, "aa;(;ab{!2};(;.;ac;);+0=1;.;);.;+0=1");
+        x.tick();
+        x.image();
+        Due.is("trial: what the ) shuts", x.trial(0, 1, 5), 1);
+        Due.is("trial: what both ) shut", x.trial(0, 2, 5), 2);
+        Due.is("trial: what all shut", x.trial(0, 3, 5), 3);
+        for (int i = 0; i < 2; i++) {
+            x.undo();
+            x.tick();
+            Due.is("c was taken into the innermost one", x.thing(2, 1), 3);
+            Due.is("log", Due.log(x), "2");
+            x.tick();
+            Due.is("log", Due.log(x), "2 1");
+            x.tick();
+            Due.is("log", Due.log(x), "2 1 0");
+            Due.is("faults", Due.faults(x, 0), "2:1");
+        }
+    }
+
+    private static void undoOfTasksThatAreOver() {
+        ScopeWarden x = new ScopeWarden();
+        Due.task(x, 0, 3, "+0=1");
+        Due.task(x, 0, 2, "+0=1;!9");
+        Due.task(x, 0, 1, "+0=1;.;+0=1");
+        Due.task(x, 0, 0, "+0=1;.;+0=1");
+        x.run(3);
+        x.cancel(2);
+        x.run(1);
+        x.cancel(3);
+        String then = Due.world(x);
+        Due.is("states", x.of(0, 0) * 1000 + x.of(1, 0) * 100 + x.of(2, 0) * 10 + x.of(3, 0), 1230);
+        x.image();
+        x.run(9);
+        Due.is("the last one", x.of(3, 0), 3);
+        Due.is("undo", x.undo(), 0);
+        Due.is("all of it", Due.world(x), then);
+        Due.is("ready ones", x.told(5), 1);
+        Due.is("trial", x.trial(1, 0, 1), 9);
+        Due.is("trial", x.trial(1, 0, 3), 2);
+        Due.is("trial", x.trial(3, 1, 3), 3);
+    }
+
+    private static void tasksThatComeBehindUndo() {
+        ScopeWarden x = new ScopeWarden();
+        x.image();
+        Due.task(x, 0, 7, "+0=1;.;aa{!5};.;+0=1;(;!7;)");
+        x.tick();
+        x.tick();
+        x.tick();
+        x.undo();
+        Due.is("task with the number of one that is gone", Due.task(x, 0, -1, ".;+1=1"), 0);
+        int[] due = {0, 99, 0, 1, 1, 0, 0, 2};
+        for (int what = 0; what < due.length; what++) {
+            Due.is("of(0, " + what + ")", x.of(0, what), due[what]);
+        }
+        Due.is("its faults", x.faults(0), 0);
+        x.cancel(0);
+        x.undo();
+        Due.task(x, 0, 0, "+1=1");
+        Due.is("of(0, 6)", x.of(0, 6), 0);
+        Due.task(x, 0, 0, "+1=1");
+        Due.is("tick of the first", x.tick(), 0);
+        Due.is("it is done", x.of(0, 0), 1);
+        Due.is("its scope", x.scope(1, 0), 1);
+        Due.is("tick of the other", x.tick(), 1);
     }
 }

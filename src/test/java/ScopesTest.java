@@ -427,7 +427,9 @@ public final class ScopesTest {
         Due.is("name(0, 0)", x.name(0, 0), 'a');
         Due.is("name(0, 6)", x.name(0, 6), 'd');
         Due.is("name(0, 7)", x.name(0, 7), NONE);
-        Due.is("name(0, -2)", x.name(0, -2), NONE);
+        for (int i : new int[] {-2, -3, -7, 8, 13, 14, 70, 100, Integer.MIN_VALUE, Integer.MAX_VALUE}) {
+            Due.is("name(0, " + i + ")", x.name(0, i), NONE);
+        }
         Due.is("name(1, -1)", x.name(1, -1), 1);
         Due.is("name(1, 0)", x.name(1, 0), 'm');
         Due.is("name(1, 1)", x.name(1, 1), NONE);
@@ -548,6 +550,9 @@ public final class ScopesTest {
         Due.is("plan changes nothing", Due.all(x), before);
         x.move(0, 2);
         Due.is("plan then", Due.plan(x, 0), "1 3 0 4 2");
+        Due.take(x, 0, "f");
+        Due.is("plan with one more at the end", Due.plan(x, 0), "5 1 3 0 4 2");
+        x.close(5);
         x.shut(1);
         Due.is("plan of a shut one", x.plan(1, -1), 0);
         Due.is("plan of the root then", x.plan(0, -1), 0);
@@ -583,6 +588,17 @@ public final class ScopesTest {
         Due.is("faults of it", Due.faults(x, -1), "105:4 101:3");
         Due.is("would of a shut one", x.would(1, 0), STATE);
         Due.is("would of a shut one, what 6", x.would(1, 6), NONE);
+        ScopeWarden w = new ScopeWarden();
+        w.open(0);
+        w.open(1);
+        Due.take(w, 2, "a");
+        Due.take(w, 1, "b=+0=1");
+        Due.take(w, 0, "c");
+        int[] below = {3, 2, 1};
+        for (int s = 0; s < 3; s++) {
+            Due.is("would(" + s + ", 3)", w.would(s, 3), below[s]);
+            Due.is("would(" + s + ", 5)", w.would(s, 5), s);
+        }
         ScopeWarden y = new ScopeWarden();
         y.open(0);
         y.open(0);
@@ -645,6 +661,10 @@ public final class ScopesTest {
         Due.is("fault(0, -1, 0)", x.fault(0, -1, 0), NONE);
         Due.is("fault(0, 0, 2)", x.fault(0, 0, 2), NONE);
         Due.is("fault(0, 0, -1)", x.fault(0, 0, -1), NONE);
+        Due.is("fault(0, 1, 2)", x.fault(0, 1, 2), NONE);
+        Due.is("fault(0, 1, -1)", x.fault(0, 1, -1), NONE);
+        Due.is("fault(-1, 0, 2)", x.fault(-1, 0, 2), NONE);
+        Due.is("fault(-1, 0, -1)", x.fault(-1, 0, -1), NONE);
         Due.is("fault(1, 0, 0)", x.fault(1, 0, 0), NONE);
         Due.is("fault(-2, 0, 0)", x.fault(-2, 0, 0), NONE);
         Due.is("faults(1)", x.faults(1), NONE);

@@ -9,6 +9,7 @@ public final class TextsTest {
         promise6Paper();
         textsOfClosers();
         textsOfTasks();
+        textsOneBehindTheOther();
         tapeBehindReading();
         Due.end();
     }
@@ -86,7 +87,9 @@ public final class TextsTest {
         Due.is("the closer of a closed one", Due.closer(x, 1),
                 "aq{xabcdefg;ar{mzz>7;k0;.};ak};?3<-12:av{!1};?0<0:.;.");
         Due.take(x, 0, "c");
-        int c = x.told(2) - 1;
+        Due.take(x, 0, "d=?0<-1:ap{?0<-01:ap{?0<1:+0=-1;?1<1:!1}}");
+        Due.is("with a ? in each", Due.closer(x, x.told(2) - 1), "?0<-1:ap{?0<-1:ap{?0<1:+0=-1;?1<1:!1}}");
+        int c = x.told(2) - 2;
         Due.is("spell of one without a closer", x.spell(c), 0);
         Due.is("the paper then", x.paper(0), ScopeWarden.NONE);
     }
@@ -229,6 +232,10 @@ public final class TextsTest {
         thingFault("a=k", 3);
         thingFault("a=k9", -1);
         thingFault("a=k10", 4);
+        thingFault("a=k:", 3);
+        thingFault("a=k/", 3);
+        thingFault("a=+0=1:", 6);
+        thingFault("a=!:", 3);
         thingFault("a=..", 3);
     }
 
@@ -262,6 +269,14 @@ public final class TextsTest {
         taskFault("+0=1 ", 4);
         taskFault("y", 0);
         taskFault("+0=1;y", 5);
+    }
+
+    private static void textsOneBehindTheOther() {
+        ScopeWarden x = new ScopeWarden();
+        Due.is("an open (", Due.task(x, 0, 0, "(;("), -103);
+        Due.is("none behind it", Due.task(x, 0, 0, "."), 0);
+        Due.is("a ) behind it", Due.task(x, 0, 0, "(;);)"), -104);
+        Due.is("a fault, then none", Due.take(x, 0, "a"), 0);
     }
 
     private static void tapeBehindReading() {
