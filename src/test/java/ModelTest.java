@@ -1031,7 +1031,19 @@ public final class ModelTest {
             }
         }
 
+        /** So many of all ahead of the run that it comes to the limits. */
+        private void fill() {
+            for (int i = seed % 4 == 1 ? 40 + random.nextInt(20) : 0; i > 0; i--) {
+                same("open", random.nextInt(x.told(0)), 0, 0, 0, 0);
+            }
+            for (int i = seed % 4 == 2 ? 75 + random.nextInt(15) : 0; i > 0; i--) {
+                put("q" + (char) ('a' + i / 26) + (char) ('a' + i % 26) + "=x" + name());
+                same("take", random.nextInt(x.told(0)), 0, 0, 0, 0);
+            }
+        }
+
         void go() {
+            fill();
             for (int i = 0; i < length && Due.wrong() == 0; i++) {
                 change();
                 for (int k = 0; k < 3; k++) {
