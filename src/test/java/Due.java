@@ -2,6 +2,8 @@
 final class Due {
     private static int looked;
     private static int wrong;
+    /** The words that the tests are of. */
+    private static String about = "";
 
     private Due() {
     }
@@ -27,10 +29,15 @@ final class Due {
         }
     }
 
+    /** From here on the tests are of these words. */
+    static void about(String words) {
+        about = words + ": ";
+    }
+
     private static void told(String what) {
         wrong++;
         if (wrong <= 40) {
-            System.out.println(what);
+            System.out.println(about + what);
         }
     }
 
