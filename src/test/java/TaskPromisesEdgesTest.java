@@ -25,6 +25,7 @@ public final class TaskPromisesEdgesTest {
         promise43();
         promise44();
         promise45();
+        promise45ComeAgain();
         for (int n = 30; n <= 45; n++) {
             Doc.isQuoted("Promise " + n);
         }
@@ -590,5 +591,50 @@ public final class TaskPromisesEdgesTest {
         Due.refused("undo", y, STATE, y::undo);
         y.image();
         Due.is("undo then", y.undo(), 1);
+    }
+
+    /** What comes with the number of one that undo() took away has nothing of that. */
+    private static void promise45ComeAgain() {
+        says(45, "All is as THE IMAGE:");
+        ScopeWarden x = new ScopeWarden();
+        Due.task(x, 0, 0, ".;.;.;.");
+        x.tick();
+        x.image();
+        String[] ends = {"+0=1", "!2", ".;k1;.;+0=1", ".;.;.;.", "k1;.;.;."};
+        for (String end : ends) {
+            Due.task(x, 0, 50, "aa{!1};xa;.;(;.;);" + end);
+            x.run(5);
+            x.undo();
+            Due.is("a task comes again", Due.task(x, 0, 0, "+1=1;.;+1=1"), 1);
+            int[] due = {0, 100, 0, 2, 1, 0, 0, 3};
+            for (int what = 0; what < due.length; what++) {
+                of(x, 1, what, due[what]);
+            }
+            Due.is("it has no faults", x.faults(1), 0);
+            Due.is("it never had a turn", x.ready(0), 1);
+            Due.is("its turn", x.tick(), 1);
+            Due.is("the other's", x.tick(), 0);
+            Due.is("its turn", x.tick(), 1);
+            of(x, 1, 0, 1);
+            Due.is("counter(1)", x.counter(1), 2);
+            Due.is("a thing comes again", Due.take(x, 0, "a=."), 0);
+            Due.is("it is HELD", x.thing(0, 0), 0);
+            Due.is("not closed", x.thing(0, 2), -5);
+            Due.is("its closer", Due.closer(x, 0), ".");
+            Due.is("a scope comes again", x.open(0), 3);
+            Due.is("it is OPEN", x.scope(3, 0), 0);
+            Due.is("of no task", x.scope(3, 5), -5);
+            x.undo();
+        }
+        Due.take(x, 0, "b=!3");
+        x.close(0);
+        x.image();
+        x.undo();
+        Due.is("the faults of the latest call", Due.faults(x, -1), "3:0");
+        Due.take(x, 0, "c=!4");
+        x.close(1);
+        Due.is("those of another", Due.faults(x, -1), "4:1");
+        x.undo();
+        Due.is("laid back", Due.faults(x, -1), "3:0");
     }
 }

@@ -36,6 +36,7 @@ public final class Term1EdgesTest {
         shuttingSteps();
         safePoints();
         gathered();
+        gatheredInOneAnother();
         faultsOfACall();
         Doc.isQuoted("Term 1");
         Due.end();
@@ -710,6 +711,29 @@ public final class Term1EdgesTest {
         Due.is("as many as there can be", y.would(0, 0), 90);
         Due.is("shut(0)", y.shut(0), 90);
         Due.is("all of them", Due.faults(y, -1), all.toString());
+    }
+
+    /** As many closers in one another, and scopes in one another, as there can be. */
+    private static void gatheredInOneAnother() {
+        ScopeWarden x = new ScopeWarden();
+        for (int n = 0; n < 59; n++) {
+            x.open(n);
+        }
+        StringBuilder all = new StringBuilder("104:89");
+        for (int n = 0; n < 90; n++) {
+            Due.take(x, n % 60, nameOf(n) + "=x" + nameOf(n + 1) + ";!" + (n + 1));
+            if (n < 89) {
+                all.insert(6, " " + (n + 1) + ":" + n);
+            }
+        }
+        Due.is("would(0, 0)", x.would(0, 0), 90);
+        Due.is("would(59, 0)", x.would(59, 0), 31);
+        Due.is("close of the first", x.close(0), 90);
+        Due.is("the innermost first", Due.faults(x, -1), all.toString());
+        Due.is("the last of the log", x.log(89), 0);
+        Due.is("all scopes are open still", x.told(1), 60);
+        Due.is("shut of all", x.shut(0), 0);
+        Due.is("the root is left", x.told(1), 1);
     }
 
     private static void faultsOfACall() {

@@ -247,6 +247,27 @@ public final class Term3EdgesTest {
         thing("a=?0<1:.x", 8);
         thing("a=.x", 3);
         thing("a==", 2);
+        for (String sign : new String[] {"/", ":"}) {
+            // the signs below 0 and above 9
+            thing("a=+" + sign, 3);
+            thing("a=+0=" + sign, 5);
+            thing("a=+0=1" + sign, 6);
+            thing("a=!" + sign, 3);
+            thing("a=!1" + sign, 4);
+            thing("a=mb>" + sign, 5);
+            thing("a=mb>1" + sign, 6);
+            thing("a=k" + sign, 3);
+            thing("a=?" + sign, 3);
+            thing("a=?0<" + sign, 5);
+        }
+        for (String sign : new String[] {"`", "{"}) {
+            // the signs below a and above z
+            thing("a=x" + sign, 3);
+            thing("a=xb" + sign, 4);
+            thing("a=m" + sign, 3);
+            thing("a=mb" + sign, 4);
+            thing("a=a" + sign, 3);
+        }
         task("a{.}", 1);
         task("ab=.", 2);
     }
@@ -560,6 +581,8 @@ public final class Term3EdgesTest {
         Due.take(x, 0, "c=!8");
         Due.task(x, 0, 5, "(;ad{!1};xd;.;+0=1;.;);k1");
         Due.task(x, 1, 5, ".;.;.");
+        Due.task(x, 0, -9, ".;.");
+        x.cancel(2);
         x.run(2);
         x.count(7, 70);
         x.close(2);
@@ -579,13 +602,15 @@ public final class Term3EdgesTest {
         x.run(100);
         Due.is("undo", x.undo(), 2);
         Due.is("all is as it was", Due.world(x), then);
+        Due.is("one that was asked for", x.of(2, 6), 1);
         x.run(100);
+        Due.is("it is CANCELLED", x.of(2, 0), 3);
         x.shut(0);
         Due.is("undo once more", x.undo(), 2);
         Due.is("all is as it was", Due.world(x), then);
         Due.is("numbers go on from there", Due.take(x, 0, "e"), 4);
-        Due.is("numbers go on from there", x.open(0), 5);
-        Due.is("numbers go on from there", Due.task(x, 0, 0, "."), 2);
+        Due.is("numbers go on from there", x.open(0), 6);
+        Due.is("numbers go on from there", Due.task(x, 0, 0, "."), 3);
     }
 
     private static void theImageAndWhatStays() {

@@ -35,6 +35,7 @@ public final class ThingPromisesEdgesTest {
         promise25TakenAndHeld();
         promise26();
         promise26Ticks();
+        thoughtsAreAsDeeds();
         promise27();
         promise28();
         promise29();
@@ -815,6 +816,62 @@ public final class ThingPromisesEdgesTest {
         Due.refused("one below the least", x, BAD, () -> x.trial(0, -1, 0));
         Due.refused("trial(0, MAX, 0)", x, BAD, () -> x.trial(0, MAX, 0));
         Due.refused("trial(0, MIN, 5)", x, BAD, () -> x.trial(0, MIN, 5));
+    }
+
+    /** One with scopes in one another, closers that do all, and tasks in their midst; faults were gathered. */
+    private static ScopeWarden rich() {
+        ScopeWarden x = scopes(3);
+        x.open(1);
+        Due.take(x, 1, "a=!1;.");
+        Due.take(x, 3, "b=xa;ac;!2");
+        Due.take(x, 2, "d=ma>3;k1");
+        Due.take(x, 0, "e=!5");
+        x.close(3);
+        Due.task(x, 3, 0, "(;af{!6};.;(;ag{!8};.;xf;);+0=1;.;);!7");
+        Due.task(x, 0, 0, ".;.;k0;.;ah;.");
+        Due.task(x, 2, 0, "+0=1;.;?0<9:ma>0;.;xd;.;+0=1");
+        Due.task(x, 1, -1, "ai{!9;.};xi;.;.");
+        Due.task(x, 0, -1, "+0=1;.;.");
+        x.cancel(4);
+        x.run(4);
+        x.rank(3, 1);
+        x.run(1);
+        x.rank(3, -2);
+        return x;
+    }
+
+    private static int first(ScopeWarden x, int task, int what, int none) {
+        return x.faults(task) > 0 ? x.fault(task, 0, what) : none;
+    }
+
+    private static void thoughtsAreAsDeeds() {
+        ScopeWarden x = rich();
+        says(26, "In thought, behind n TICKS");
+        for (int n = 0; n <= 10; n += 2) {
+            ScopeWarden y = rich();
+            y.run(n);
+            for (int t = 0; t < 5; t++) {
+                trial(x, t, n, y.faults(t), first(y, t, 0, 0), first(y, t, 1, -1), y.of(t, 0), y.of(t, 2), y.told(7));
+            }
+        }
+        says(25, "In thought, were a SCOPE SHUT:");
+        for (int s = 0; s < x.told(0); s++) {
+            ScopeWarden y = rich();
+            int closed = -y.told(7);
+            int taken = -y.told(2);
+            int many = y.shut(s);
+            if (many < 0) {
+                would(x, s, STATE, STATE, STATE, STATE, STATE, STATE);
+            } else {
+                would(x, s, many, first(y, -1, 0, 0), first(y, -1, 1, -1), closed + y.told(7), taken + y.told(2), y.told(3));
+            }
+        }
+        says(26, "In thought, behind n TICKS");
+        ScopeWarden y = rich();
+        for (int n = 0; n <= 4; n++) {
+            trial(x, 2, n, y.faults(2), first(y, 2, 0, 0), first(y, 2, 1, -1), y.of(2, 0), y.of(2, 2), y.told(7));
+            y.tick();
+        }
     }
 
     private static void promise27() {
