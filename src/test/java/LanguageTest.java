@@ -15,6 +15,7 @@ public final class LanguageTest {
     public static void main(String[] args) throws Exception {
         String source = read("src/main/java/ScopeWarden.java");
         face();
+        order(source);
         members();
         words(bare(source));
         lengths(source);
@@ -60,6 +61,25 @@ public final class LanguageTest {
         }
         Due.is("the constants", constants.toString(), "[public static final int BAD, public static final int FULL, "
                 + "public static final int NONE, public static final int STATE, public static final long NO]");
+    }
+
+    /** The document's calls stand in its order, with the names that it gives, behind the heads of their parts. */
+    private static void order(String source) throws Exception {
+        String doc = read("../shared/DOC.md");
+        String block = doc.substring(doc.indexOf("```java") + 7);
+        StringBuilder due = new StringBuilder();
+        Matcher m = Pattern.compile("public \\w+ (\\w+)\\([^)]*\\)(?=;)").matcher(block.substring(0, block.indexOf("```")));
+        while (m.find()) {
+            Matcher head = Pattern.compile("Ahead of the calls `" + m.group(1) + "`[^:]*: (----[^.]*)\\.").matcher(doc);
+            due.append(head.find() ? head.group(1) + "\n" : "").append(m.group()).append('\n');
+        }
+        StringBuilder found = new StringBuilder();
+        m = Pattern.compile("(?m)^    // (----.*)|^    (public \\w+ \\w+\\(.*\\)) \\{").matcher(source);
+        while (m.find()) {
+            found.append(m.group(1) == null ? m.group(2) : m.group(1)).append('\n');
+        }
+        Due.is("the calls in their order", found.toString(), due.toString());
+        Due.is("lines of it", due.toString().split("\n").length, 44 + 4);
     }
 
     /** Rules 1, 3, 5 and 11, of the class and the classes inside it. */
